@@ -282,9 +282,6 @@ public final class DotCover {
         if (asked != null) {
             return asked.size;
         }
-        if (!within(what, 10, 10 + LAYERS - 1)) {
-            return OUTSIDE;
-        }
         Layer ruled = now.layerOf(what - 10);
         return ruled == null ? OUTSIDE : ruled.folding;
     }
@@ -475,12 +472,19 @@ public final class DotCover {
 
         /** dx and 100 (what = 0), dy and 100 (1) of BEST, or how many DOTS have COVER 1 then (2). */
         int bestMove(int what) {
+            int left = least(xs);
+            int right = greatest(xs);
+            int bottom = least(ys);
+            int top = greatest(ys);
             int most = -1;
             int bestDx = 0;
             int bestDy = 0;
-            for (int dx = -EDGE; dx <= EDGE; dx++) {
-                for (int dy = -EDGE; dy <= EDGE; dy++) {
-                    int dots = staysInField(dx, dy) ? wholeDots(dx, dy) : -1;
+            for (int dx = -left; dx <= EDGE - right; dx++) {
+                for (int dy = -bottom; dy <= EDGE - top; dy++) {
+                    int dots = 0;
+                    for (int row = (bottom + dy) / DOT_SIDE; DOT_SIDE * row < top + dy; row++) {
+                        dots += wholeDots(row, left, right, dx, dy);
+                    }
                     if (dots > most) {
                         most = dots;
                         bestDx = dx;
@@ -494,11 +498,30 @@ public final class DotCover {
             return 100 + (what == 0 ? bestDx : bestDy);
         }
 
-        /** How many DOTS have COVER 1 if the PATH is MOVED. */
-        private int wholeDots(int dx, int dy) {
+        private int least(int[] numbers) {
+            int found = EDGE;
+            for (int k = 0; k < size; k++) {
+                found = Math.min(found, numbers[k]);
+            }
+            return found;
+        }
+
+        private int greatest(int[] numbers) {
+            int found = 0;
+            for (int k = 0; k < size; k++) {
+                found = Math.max(found, numbers[k]);
+            }
+            return found;
+        }
+
+        /**
+         * How many DOTS of a row have COVER 1 if the PATH, which lies from left to right, is MOVED.
+         * The others of the row are not asked: a PATH that is not over them has RAW 0 there.
+         */
+        private int wholeDots(int row, int left, int right, int dx, int dy) {
             int dots = 0;
-            for (int dot = 0; dot < DOTS; dot++) {
-                if (coverParts(dot, dx, dy) == DOT_PARTS) {
+            for (int column = (left + dx) / DOT_SIDE; DOT_SIDE * column < right + dx; column++) {
+                if (coverParts(DOTS_IN_ROW * row + column, dx, dy) == DOT_PARTS) {
                     dots++;
                 }
             }

@@ -13,6 +13,8 @@ public final class ModelTest {
 
     public static void main(String[] args) {
         turnsByPlaces();
+        smallPaths();
+        windingPaths();
         for (int run = 0; run < RUNS && CHECK.wrongSoFar() < 20; run++) {
             new Run(run).play();
         }
@@ -22,7 +24,7 @@ public final class ModelTest {
     /** RAW against TURNS themselves, asked at many places of each DOT: near, not exact. */
     private static void turnsByPlaces() {
         Random random = new Random(7);
-        for (int trial = 0; trial < 40; trial++) {
+        for (int trial = 0; trial < 20; trial++) {
             DotCover x = new DotCover();
             int points = 3 + random.nextInt(6);
             int[] xs = new int[points];
@@ -36,6 +38,63 @@ public final class ModelTest {
                 double told = (double) x.raw(0, dot, 0) / x.raw(0, dot, 1);
                 CHECK.holds("RAW by places, trial " + trial + " dot " + dot, Math.abs(told - sampled(xs, ys, dot)) < 0.05);
             }
+        }
+    }
+
+    /** BEST has many moves to choose from where a path is small. */
+    private static void smallPaths() {
+        Random random = new Random(8);
+        for (int trial = 0; trial < 150; trial++) {
+            int wide = 1 + random.nextInt(8);
+            int high = 1 + random.nextInt(8);
+            int left = random.nextInt(13 - wide);
+            int low = random.nextInt(13 - high);
+            List<Spot> path = new ArrayList<>(List.of(new Spot(left, low), new Spot(left + wide, low),
+                    new Spot(left + wide, low + high), new Spot(left, low + high)));
+            for (int more = random.nextInt(5); more > 0; more--) {
+                path.add(random.nextBoolean() ? path.get(path.size() - 4)
+                        : new Spot(left + random.nextInt(wide + 1), low + random.nextInt(high + 1)));
+            }
+            dueAll("small " + trial, path, trial % 2, true);
+        }
+    }
+
+    /** Stars go round up to three times, so that RULE 1 folds all that it can. */
+    private static void windingPaths() {
+        Random random = new Random(9);
+        int[] ring = {4, 0, 8, 0, 12, 4, 12, 8, 8, 12, 4, 12, 0, 8, 0, 4};
+        for (int trial = 0; trial < 60; trial++) {
+            int points = trial % 3 == 0 ? 7 : 8;
+            List<Spot> path = new ArrayList<>();
+            for (int k = 0; k < points; k++) {
+                int corner = 2 * (3 * k % points);
+                path.add(new Spot(near(ring[corner], random), near(ring[corner + 1], random)));
+            }
+            dueAll("star " + trial, path, trial % 2, trial % 5 == 0);
+        }
+    }
+
+    private static int near(int place, Random random) {
+        return Math.max(0, Math.min(12, place + random.nextInt(5) - 2));
+    }
+
+    private static void dueAll(String name, List<Spot> path, int rule, boolean withBest) {
+        DotCover x = new DotCover();
+        Model model = new Model();
+        x.rule(1, rule);
+        model.rules[1] = rule;
+        for (Spot s : path) {
+            x.point(1, s.x, s.y);
+            model.paths.get(1).add(s);
+        }
+        for (int dot = 0; dot < 16; dot++) {
+            Frac raw = Model.raw(path, dot);
+            Frac cover = model.cover(1, dot);
+            CHECK.due(name + " raw " + dot, x.raw(1, dot, 0), x.raw(1, dot, 1), raw.up, raw.low);
+            CHECK.due(name + " cover " + dot, x.cover(1, dot, 0), x.cover(1, dot, 1), cover.up, cover.low);
+        }
+        for (int what = 0; what < 3 && withBest; what++) {
+            CHECK.due(name + " best " + what, x.best(1, what), model.best(1, what));
         }
     }
 

@@ -29,6 +29,7 @@ public final class PromisesTest {
         at();
         raw();
         rawCountsTurns();
+        greatestLowerNumbers();
         rawRefused();
         cover();
         coverFolds();
@@ -315,6 +316,17 @@ public final class PromisesTest {
     /** Eight points that go round DOT 5 three times. */
     private static DotCover star() {
         return with(1, 3, 0, 12, 6, 0, 6, 6, 0, 6, 12, 0, 3, 12, 3, 3, 12);
+    }
+
+    /** No RAW has a lower number above 498960, and no TOGETHER one above that cubed. */
+    private static void greatestLowerNumbers() {
+        DotCover x = new DotCover();
+        for (int layer = 0; layer < 3; layer++) {
+            add(x, layer, 8, 1, 11, 2, 0, 9, 6, 9, 10, 4, 1, 11, 10, 3, 8, 4);
+            dueRaw(x, layer, 6, -155041, 498960);
+            dueCover(x, layer, 6, 155041, 498960);
+        }
+        dueTogether(x, 6, 83542786152715441L, 124221621275136000L);
     }
 
     private static void rawRefused() {
