@@ -28,6 +28,7 @@ public final class EdgesTest {
         placesOnThePath();
         turnsTimesTheirArea();
         allTurns();
+        everyEdge();
         areaIsAllRaw();
         leastAndGreatestArea();
         lowestTerms();
@@ -271,6 +272,59 @@ public final class EdgesTest {
         two.back(0);
         dueRaw(two, 0, 0, -2, 1);
         dueRaw(two, 0, 6, -1, 1);
+    }
+
+    /**
+     * Every straight line between two POINTS, with what is left of it up to x = 0. Each RAW is a whole number
+     * of 1/498960, so one whose lower number divides that and that is nearer than 0.000001 is the right one.
+     */
+    private static void everyEdge() {
+        sentence("how much of each dot a path goes round is told exactly, as a fraction");
+        for (int edge = 0; edge < 13 * 13 * 13 * 13; edge++) {
+            int x1 = edge % 13;
+            int y1 = edge / 13 % 13;
+            int x2 = edge / 169 % 13;
+            int y2 = edge / 2197;
+            DotCover x = with(0, x1, y1, x2, y2, 0, y2, 0, y1);
+            for (int dot = 0; dot < 16; dot++) {
+                long up = x.raw(0, dot, 0);
+                long low = x.raw(0, dot, 1);
+                double want = leftOf(x1, y1, x2, y2, 3 * (dot % 4), 3 * (dot / 4)) / 9;
+                boolean right = low > 0 && 498960 % low == 0 && Math.abs((double) up / low - want) < 1e-6;
+                if (!right) {
+                    due("raw of dot " + dot + " by (" + x1 + ", " + y1 + ") to (" + x2 + ", " + y2 + "): " + up + " by "
+                            + low + ", near " + want, 0, 1);
+                }
+            }
+            due("points", x.count(0), 4);
+        }
+    }
+
+    /** The area of a DOT to the left of a line, below 0 if it goes down: the middle of each piece, times its height. */
+    private static double leftOf(int x1, int y1, int x2, int y2, int left, int low) {
+        if (y1 > y2) {
+            return -leftOf(x2, y2, x1, y1, left, low);
+        }
+        double from = Math.max(y1, low);
+        double to = Math.min(y2, low + 3);
+        if (from >= to) {
+            return 0;
+        }
+        // Between the heights at which the line meets the DOT's two upright sides it is straight within the DOT.
+        double slope = (double) (x2 - x1) / (y2 - y1);
+        double meetsLeft = slope == 0 ? from : between(y1 + (left - x1) / slope, from, to);
+        double meetsRight = slope == 0 ? from : between(y1 + (left + 3 - x1) / slope, from, to);
+        double[] heights = {from, Math.min(meetsLeft, meetsRight), Math.max(meetsLeft, meetsRight), to};
+        double sum = 0;
+        for (int i = 0; i < 3; i++) {
+            double middle = x1 + slope * ((heights[i] + heights[i + 1]) / 2 - y1);
+            sum += between(middle - left, 0, 3) * (heights[i + 1] - heights[i]);
+        }
+        return sum;
+    }
+
+    private static double between(double n, double least, double most) {
+        return Math.max(least, Math.min(most, n));
     }
 
     private static void areaIsAllRaw() {
