@@ -26,6 +26,7 @@ public final class FaceTest {
     public static void main(String[] args) throws IOException {
         theClass();
         theConstants();
+        theClassesInside();
         theSource();
         CHECK.end();
     }
@@ -53,9 +54,6 @@ public final class FaceTest {
         for (Constructor<?> c : face.getDeclaredConstructors()) {
             CHECK.holds("public constructor without arguments", Modifier.isPublic(c.getModifiers()) && c.getParameterCount() == 0);
         }
-        for (Class<?> inside : face.getDeclaredClasses()) {
-            CHECK.holds(inside + " is static", Modifier.isStatic(inside.getModifiers()));
-        }
     }
 
     private static String written(Method m) {
@@ -75,7 +73,6 @@ public final class FaceTest {
                 CHECK.holds(f + " is a constant", Modifier.isPublic(how) && Modifier.isStatic(how));
                 constants.add(f.getType() + " " + f.getName());
             }
-            CHECK.holds(f + " is no static state", !Modifier.isStatic(how) || Modifier.isFinal(how));
         }
         CHECK.holds("constants " + constants, constants.equals(CONSTANTS));
         CHECK.due("UNKNOWN", DotCover.UNKNOWN, -1);
@@ -85,6 +82,38 @@ public final class FaceTest {
         CHECK.due("NO", DotCover.NO, -5);
         CHECK.due("NONE", DotCover.NONE, -6);
         CHECK.due("BELOW", DotCover.BELOW, -1_000_000_000_000_000_000L);
+    }
+
+    /** Rules 1, 2, 5 and 11 of LANGUAGE.md, for the class and those inside it. */
+    private static void theClassesInside() {
+        Class<?>[] inside = DotCover.class.getDeclaredClasses();
+        CHECK.holds("at most twelve classes", inside.length < 12);
+        keepsToTheRules(DotCover.class);
+        for (Class<?> one : inside) {
+            CHECK.holds(one + " is static", Modifier.isStatic(one.getModifiers()));
+            CHECK.holds(one + " is private or package-visible",
+                    !Modifier.isPublic(one.getModifiers()) && !Modifier.isProtected(one.getModifiers()));
+            CHECK.due(one + ", classes inside", one.getDeclaredClasses().length, 0);
+            for (Method m : one.getDeclaredMethods()) {
+                boolean free = METHODS.stream().noneMatch(call -> call.contains(" " + m.getName() + "("));
+                CHECK.holds(m + " bears no public name", free);
+            }
+            keepsToTheRules(one);
+        }
+    }
+
+    private static void keepsToTheRules(Class<?> one) {
+        int fields = 0;
+        for (Field f : one.getDeclaredFields()) {
+            boolean shared = Modifier.isStatic(f.getModifiers());
+            fields += shared ? 0 : 1;
+            CHECK.holds(f + " is no static state", !shared || Modifier.isFinal(f.getModifiers()) && f.getType().isPrimitive());
+        }
+        CHECK.holds(one + " has at most twenty fields", fields <= 20);
+        for (Method m : one.getDeclaredMethods()) {
+            CHECK.holds(m + " takes at most seven", m.getParameterCount() <= 7);
+            CHECK.holds(m + " has no name that javac makes", !m.isSynthetic());
+        }
     }
 
     private static void theSource() throws IOException {
